@@ -15,6 +15,7 @@ final class RoundsTest {
         fees();
         moves();
         cuts();
+        firstCalls();
         refusals();
         CHECKS.end();
     }
@@ -219,8 +220,44 @@ final class RoundsTest {
         due("blamed() then", y.blamed(), 1);
     }
 
+    /* Whichever call comes first behind a change sees it. */
+    private static void firstCalls() {
+        String fair = "1a>2b;1b>1a;2a>9b";
+        due("rounds", Checks.fair(fair).rounds(1), 2);
+        due("round", Checks.fair(fair).round(1, 0), 2);
+        due("product", Checks.fair(fair).product(1, 0), 9);
+        due("best", Checks.fair(fair).best(0), 1);
+        due("through", Checks.fair(fair).through(1), 2);
+        due("blamed", Checks.fair(fair).blamed(), 2);
+        due("cut", Checks.fair(fair).cut(), 2);
+        due("move", Checks.fair(fair).move(2), NONE);
+        due("edge", Checks.fair(fair).edge(), 7);
+        FairBoards x = Checks.fair(fair);
+        due("edge()", x.edge(), 7);
+        x.change(2, 0, 2);
+        due("through(2) then", x.through(2), 0);
+        x.change(2, 0, 3);
+        due("blamed() then", x.blamed(), 2);
+        x.set(0, 1);
+        due("best(0) by fee 1", x.best(0), NONE);
+        x.set(0, 0);
+        due("cut() by fee 0", x.cut(), 2);
+        x.hours(1, 1, 1);
+        due("cut() without board 1", x.cut(), 0);
+        x.set(1, 1);
+        due("through(0) at 1", x.through(0), 1);
+        x.board(1, 1, 0, 1);
+        due("blamed() of two ways back", x.blamed(), 0);
+        Checks.say(x, "1b>1a");
+        x.read();
+        due("through(0) of three ways back", x.through(0), 3);
+    }
+
     private static void refusals() {
         FairBoards x = Checks.fair("1a>2b;1b>1a");
+        due("round(0, 16)", x.round(0, 16), NONE);
+        due("round(0, -16)", x.round(0, -16), NONE);
+        due("round(0, -1 and 2 to the 31st)", x.round(0, Integer.MAX_VALUE), NONE);
         due("rounds(2)", x.rounds(2), -2);
         due("rounds(-1)", x.rounds(-1), -2);
         due("best(2)", x.best(2), -2);

@@ -11,6 +11,7 @@ final class WorthsTest {
         span();
         joined();
         gaining();
+        firstCalls();
         refusals();
         worth();
         off();
@@ -97,6 +98,9 @@ final class WorthsTest {
         FairBoards y = Checks.fair("1h>1a;1g>1h;1f>1g;1e>1f;1d>1e;1c>1d;1b>1c;1a>1b");
         due("all joined", y.joined(6), 255);
         due("one part", y.parts(), 1);
+        FairBoards z = Checks.fair("1a>1b;1b>1c;1c>1d;1d>1e;1e>1f;1f>1g;1g>1h;1h>1a");
+        due("one part from the other side", z.parts(), 1);
+        due("all joined from the other side", z.joined(0), 255);
     }
 
     private static void gaining() {
@@ -112,6 +116,19 @@ final class WorthsTest {
         due("span(0, 1, 2, 0)", x.span(0, 1, 2, 0), LOST - 2);
         x.set(0, 1);
         gets(x, 0, 1, 1, 1);
+    }
+
+    /* Whichever call comes first behind a change sees it. */
+    private static void firstCalls() {
+        String fair = "1a>2b;1b>1a";
+        due("gets", Checks.fair(fair).gets(0, 1, 0), LOST - 3);
+        due("span", Checks.fair(fair).span(0, 1, 0, 0), LOST - 3);
+        due("joined", Checks.fair(fair).joined(0), -3);
+        due("parts", Checks.fair(fair).parts(), -3);
+        FairBoards x = Checks.fair(fair);
+        due("parts()", x.parts(), -3);
+        x.set(0, 1);
+        due("parts() by fee 1", x.parts(), 7);
     }
 
     private static void refusals() {
