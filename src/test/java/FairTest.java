@@ -120,6 +120,11 @@ final class FairTest {
         due("signs stay", y.told(1), 77);
         Checks.say(y, ";1a");
         due("a text of 80 signs may go on", y.fault(), 80);
+        due("a text of 80 signs that goes on is no FAIR", y.read(), -5);
+        y.wipe();
+        Checks.say(y, twelve + ";1a>10b;1");
+        due("signs of a text that ends in a number", y.told(1), 80);
+        due("its fault", y.fault(), 80);
         FairBoards z = Checks.fair(nine);
         Checks.say(z, "1c>1d;1c>1d;1c>1d;1c>1d");
         due("nine and four", z.read(), -4);
