@@ -253,8 +253,7 @@ public final class FairBoards {
         if (refusal != 0) {
             return LOST + refusal;
         }
-        ways.spread(boards, from);
-        return part == 0 ? ways.upper[to] : ways.lower[to];
+        return partOfBestWay(from, to, part);
     }
 
     public long span(int coin, int in, int end, int part) {
@@ -263,11 +262,11 @@ public final class FairBoards {
             return LOST + refusal;
         }
         if (end == 0) {
-            return gets(coin, in, part);
+            return partOfBestWay(coin, in, part);
         }
         // Where there is no end it is told as 0 by 1, and that is what part already says.
-        boolean endless = gets(in, coin, 0) == 0;
-        return endless ? part : gets(in, coin, 1 - part);
+        boolean endless = partOfBestWay(in, coin, 0) == 0;
+        return endless ? part : partOfBestWay(in, coin, 1 - part);
     }
 
     public int joined(int coin) {
@@ -443,6 +442,14 @@ public final class FairBoards {
         }
         lookAround();
         return found.gainers > 0 ? STATE : 0;
+    }
+
+    private long partOfBestWay(int from, int to, int part) {
+        if (!isCoin(from) || !isCoin(to)) {
+            return 0;
+        }
+        ways.spread(boards, from);
+        return part == 0 ? ways.upper[to] : ways.lower[to];
     }
 
     private int excess(int board) {
@@ -854,7 +861,8 @@ public final class FairBoards {
 
     /** Heaps by boards gone and coin: the greatest ones, and the least ones that still end as well as can be. */
     static final class Heaps {
-        private static final int NEVER = Integer.MAX_VALUE;
+        /* Above every heap: those are 1000000 times 99 at most. */
+        private static final int NEVER = 1000000000;
 
         final int[][] greatest = new int[STEPS + 1][COINS];
         private final int[][] needed = new int[STEPS + 1][COINS];
